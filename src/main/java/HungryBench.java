@@ -278,12 +278,14 @@ public final class HungryBench {
     }
 
     public int saved(boolean worth) {
+        matches.openPlaces();
         int set = matches.savedCases();
         return worth ? now.worthOf(set) : set;
     }
 
     public int needed() {
-        return matches.neededHours();
+        matches.openPlaces();
+        return matches.hoursFor(matches.savedCases());
     }
 
     public int crumbles(int judge) throws IndexOutOfBoundsException {
@@ -581,21 +583,51 @@ public final class HungryBench {
         rehearsal.goOn(n, true);
     }
 
-    /** The bytes that came, and how they are read, one thing (word, number, sign) behind another. */
+    /** The bytes that came, and the things (words, numbers, signs) that a text of them is made of. */
     private static final class Tape {
-        static final int END = 0;
-        static final int WORD = 1;
-        static final int NUMBER = 2;
-        static final int SIGN = 3;
+        /** Each word with a blank behind it; its place among them is its number. Those of facts stand first. */
+        static final String WORDS =
+                "judge hunger nerve kind grave worth hour leaning precedent late mercy pay case list inn day on move harden crumb if or and not a b c d e f ";
+
+        /** Things: numbers are themselves, words stand from WORD on by their numbers, signs from SIGN on. */
+        static final int END = -1;
+        static final int WORD = 1000;
+        static final int JUDGE = WORD;
+        static final int HUNGER = WORD + 1;
+        static final int NERVE = WORD + 2;
+        static final int KIND = WORD + 3;
+        static final int GRAVE = WORD + 4;
+        static final int WORTH = WORD + 5;
+        static final int HOUR = WORD + 6;
+        static final int LEANING = WORD + 7;
+        static final int PRECEDENT = WORD + 8;
+        static final int LATE = WORD + 9;
+        static final int MERCY = WORD + 10;
+        static final int PAY = WORD + 11;
+        static final int CASE = WORD + 12;
+        static final int LIST = WORD + 13;
+        static final int INN = WORD + 14;
+        static final int DAY = WORD + 15;
+        static final int ON = WORD + 16;
+        static final int MOVE = WORD + 17;
+        static final int HARDEN = WORD + 18;
+        static final int CRUMB = WORD + 19;
+        static final int IF = WORD + 20;
+        static final int OR = WORD + 21;
+        static final int AND = WORD + 22;
+        static final int NOT = WORD + 23;
+        static final int LETTER = WORD + 24;
+        static final int SIGN = 2000;
+        /** A number of more digits, or a word that is none: it can stand nowhere. */
+        static final int NO_THING = 3000;
+
         static final int MOST_DIGITS = 3;
 
         final int[] bytes = new int[TAPE_ROOM];
+        final int[] things = new int[TAPE_ROOM + 1];
+        final int[] starts = new int[TAPE_ROOM + 1];
         int length = 0;
-        int stop = 0;
         int at = 0;
-        int thing = END;
-        int start = 0;
-        int value = 0;
         int wrong = NONE;
 
         void put(int number) {
@@ -613,136 +645,127 @@ public final class HungryBench {
             return had;
         }
 
+        /** Uses the tape up, and tells its things, END behind them. */
         void open() {
-            stop = useUp();
-            at = 0;
-            wrong = NONE;
-            step();
-        }
-
-        void step() {
-            while (at < stop && bytes[at] == ' ') {
-                at++;
-            }
-            start = at;
-            value = NONE;
-            if (at >= stop) {
-                thing = END;
-            } else if (isLetter()) {
-                passWord();
-            } else if (isDigit()) {
-                passNumber();
-            } else {
-                thing = SIGN;
-                value = bytes[at];
-                at++;
-            }
-        }
-
-        boolean isLetter() {
-            return at < stop && bytes[at] >= 'a' && bytes[at] <= 'z';
-        }
-
-        boolean isDigit() {
-            return at < stop && bytes[at] >= '0' && bytes[at] <= '9';
-        }
-
-        void passWord() {
-            thing = WORD;
-            while (at < stop && isLetter()) {
-                at++;
-            }
-        }
-
-        void passNumber() {
-            thing = NUMBER;
-            value = 0;
-            while (at < stop && isDigit()) {
-                // a number of more digits keeps a value that no bounds allow
-                value = at - start < MOST_DIGITS ? value * 10 + bytes[at] - '0' : NONE;
-                at++;
-            }
-        }
-
-        boolean isWord(String word) {
-            if (thing != WORD || at - start != word.length()) {
-                return false;
-            }
-            for (int i = 0; i < word.length(); i++) {
-                if (bytes[start + i] != word.charAt(i)) {
-                    return false;
+            int stop = useUp();
+            int count = 0;
+            int next = 0;
+            while (next < stop) {
+                int start = next;
+                next = endOfThing(start, stop);
+                if (bytes[start] != ' ') {
+                    starts[count] = start;
+                    things[count] = thingOf(start, next);
+                    count++;
                 }
             }
-            return true;
+            starts[count] = stop;
+            things[count] = END;
+            at = 0;
+            wrong = NONE;
         }
 
-        boolean isSign(char sign) {
-            return thing == SIGN && value == sign;
-        }
-
-        boolean refuse() {
-            return refuseAt(start);
-        }
-
-        boolean refuseAt(int place) {
-            wrong = place;
-            return false;
-        }
-
-        boolean takeWord(String word) {
-            if (!isWord(word)) {
-                return false;
+        int endOfThing(int start, int stop) {
+            boolean word = isLetter(bytes[start]);
+            boolean number = isDigit(bytes[start]);
+            int next = start + 1;
+            while (next < stop && (word && isLetter(bytes[next]) || number && isDigit(bytes[next]))) {
+                next++;
             }
-            step();
-            return true;
+            return next;
         }
 
-        boolean takeSign(char sign) {
-            if (!isSign(sign)) {
-                return false;
+        int thingOf(int start, int stop) {
+            if (isLetter(bytes[start])) {
+                return wordOf(start, stop);
             }
-            step();
-            return true;
+            return isDigit(bytes[start]) ? numberOf(start, stop) : SIGN + bytes[start];
         }
 
-        boolean needSign(char sign) {
-            return takeSign(sign) || refuse();
-        }
-
-        /** The number that stands here, 0 to most; NONE, if it is refused. */
-        int needNumber(int most) {
-            if (thing != NUMBER || value < 0 || value > most) {
-                refuse();
-                return NONE;
+        int wordOf(int start, int stop) {
+            int number = 0;
+            int next = start;
+            boolean same = true;
+            for (int i = 0; i < WORDS.length(); i++) {
+                char letter = WORDS.charAt(i);
+                if (letter != ' ') {
+                    same = same && next < stop && bytes[next] == letter;
+                    next++;
+                } else if (same && next == stop) {
+                    return WORD + number;
+                } else {
+                    number++;
+                    next = start;
+                    same = true;
+                }
             }
-            int number = value;
-            step();
+            return NO_THING;
+        }
+
+        int numberOf(int start, int stop) {
+            if (stop - start > MOST_DIGITS) {
+                return NO_THING;
+            }
+            int number = 0;
+            for (int i = start; i < stop; i++) {
+                number = number * 10 + bytes[i] - '0';
+            }
             return number;
         }
 
-        /** A word and its number; NONE, if one of them is refused. */
-        int needNamed(String word, int most) {
-            if (!takeWord(word)) {
+        static boolean isLetter(int b) {
+            return b >= 'a' && b <= 'z';
+        }
+
+        static boolean isDigit(int b) {
+            return b >= '0' && b <= '9';
+        }
+
+        int here() {
+            return things[at];
+        }
+
+        /** What stands here cannot stand here. */
+        boolean refuse() {
+            wrong = starts[at];
+            return false;
+        }
+
+        /** Goes behind the thing here, if it is that one; never behind END. */
+        boolean take(int thing) {
+            if (things[at] != thing || at >= TAPE_ROOM) {
+                return false;
+            }
+            at++;
+            return true;
+        }
+
+        boolean need(int thing) {
+            return take(thing) || refuse();
+        }
+
+        /** A thing from least to most, told from least on; NONE, if it is refused. */
+        int needFrom(int least, int most) {
+            int thing = things[at];
+            if (thing < least || thing > most || !take(thing)) {
                 refuse();
                 return NONE;
             }
-            return needNumber(most);
+            return thing - least;
+        }
+
+        int needNumber(int most) {
+            return needFrom(0, most);
+        }
+
+        /** A word and its number; NONE, if one of them is refused. */
+        int needNamed(int word, int most) {
+            return need(word) ? needFrom(0, most) : NONE;
         }
 
         /** A word and its number, or what counts without; NONE, if the number is refused. */
-        int maybeNamed(String word, int most, int without) {
-            return takeWord(word) ? needNumber(most) : without;
-        }
-
-        /** A letter a to f alone, as 0 to 5; NONE, if it is refused. */
-        int needKind() {
-            int letter = bytes[start < TAPE_ROOM ? start : 0] - 'a';
-            if (thing != WORD || at - start != 1 || letter < 0 || letter >= KINDS) {
-                refuse();
-                return NONE;
-            }
-            step();
-            return letter;
+        int maybeNamed(int word, int most, int without) {
+            return take(word) ? needFrom(0, most) : without;
         }
     }
 
@@ -760,17 +783,17 @@ public final class HungryBench {
 
         boolean readAll() {
             tape.open();
-            if (tape.thing == Tape.END) {
+            if (tape.here() == Tape.END) {
                 return true;
             }
             for (int n = 0; n < mostLines; n++) {
                 if (!readLine()) {
                     return false;
                 }
-                if (tape.thing == Tape.END) {
+                if (tape.here() == Tape.END) {
                     return true;
                 }
-                if (!tape.needSign(';')) {
+                if (!tape.need(Tape.SIGN + ';')) {
                     return false;
                 }
             }
@@ -791,39 +814,30 @@ public final class HungryBench {
         }
 
         boolean readLine() {
-            if (tape.isWord("judge")) {
-                return readJudge();
+            switch (tape.here()) {
+                case Tape.JUDGE: return readJudge();
+                case Tape.CASE: return readCase();
+                case Tape.LIST: return readPlace();
+                case Tape.INN: return readInn();
+                case Tape.HOUR:
+                    town.hour = tape.needNamed(Tape.HOUR, DAY_HOURS - 1);
+                    return town.hour >= 0;
+                case Tape.DAY:
+                    town.day = tape.needNamed(Tape.DAY, LATEST_TOLD_DAY);
+                    return town.day >= 0;
+                default: return tape.refuse();
             }
-            if (tape.isWord("case")) {
-                return readCase();
-            }
-            if (tape.takeWord("list")) {
-                return readPlace();
-            }
-            if (tape.takeWord("inn")) {
-                return readInn();
-            }
-            if (tape.takeWord("hour")) {
-                town.hour = tape.needNumber(DAY_HOURS - 1);
-                return town.hour >= 0;
-            }
-            if (tape.takeWord("day")) {
-                town.day = tape.needNumber(LATEST_TOLD_DAY);
-                return town.day >= 0;
-            }
-            return tape.refuse();
         }
 
         boolean readJudge() {
             int j = town.judges;
-            if (j >= MOST_JUDGES) {
+            if (j >= MOST_JUDGES || !tape.take(Tape.JUDGE)) {
                 return tape.refuse();
             }
-            tape.step();
-            int mercy = tape.needNamed("mercy", 99);
-            int nerve = mercy < 0 ? NONE : tape.needNamed("nerve", 9);
-            int hunger = nerve < 0 ? NONE : tape.maybeNamed("hunger", MOST_HUNGER, 0);
-            int pay = hunger < 0 ? NONE : tape.maybeNamed("pay", 99, 0);
+            int mercy = tape.needNamed(Tape.MERCY, 99);
+            int nerve = mercy < 0 ? NONE : tape.needNamed(Tape.NERVE, 9);
+            int hunger = nerve < 0 ? NONE : tape.maybeNamed(Tape.HUNGER, MOST_HUNGER, 0);
+            int pay = hunger < 0 ? NONE : tape.maybeNamed(Tape.PAY, 99, 0);
             if (pay < 0) {
                 return false;
             }
@@ -837,22 +851,19 @@ public final class HungryBench {
 
         boolean readCase() {
             int c = town.cases;
-            if (c >= MOST_CASES) {
+            if (c >= MOST_CASES || !tape.take(Tape.CASE)) {
                 return tape.refuse();
             }
-            tape.step();
-            int kind = tape.needKind();
-            int grave = kind < 0 ? NONE : tape.needNamed("grave", MOST_GRAVE);
-            int worth = grave < 0 ? NONE : tape.maybeNamed("worth", 99, 1);
+            int kind = tape.needFrom(Tape.LETTER, Tape.LETTER + KINDS - 1);
+            int grave = kind < 0 ? NONE : tape.needNamed(Tape.GRAVE, MOST_GRAVE);
+            int worth = grave < 0 ? NONE : tape.maybeNamed(Tape.WORTH, 99, 1);
             if (worth < 0) {
                 return false;
             }
-            int lean = NONE;
-            if (tape.takeWord("on")) {
-                lean = tape.needNumber(c - 1);
-                if (lean < 0) {
-                    return false;
-                }
+            boolean leaning = tape.take(Tape.ON);
+            int lean = leaning ? tape.needNumber(c - 1) : NONE;
+            if (leaning && lean < 0) {
+                return false;
             }
             town.kinds[c] = kind;
             town.graves[c] = grave;
@@ -863,22 +874,21 @@ public final class HungryBench {
         }
 
         boolean readPlace() {
-            int judge = tape.needNumber(town.judges - 1);
+            int judge = tape.needNamed(Tape.LIST, town.judges - 1);
             int hour = judge < 0 ? NONE : tape.needNumber(DAY_HOURS - 1);
-            int begin = tape.start;
-            int cause = hour < 0 ? NONE : tape.needNumber(town.cases - 1);
-            if (cause < 0) {
+            if (hour < 0) {
                 return false;
             }
-            if (town.placeOf(cause) >= 0) {
-                return tape.refuseAt(begin);
+            int cause = tape.here();
+            if (cause < 0 || cause >= town.cases || town.placeOf(cause) >= 0 || !tape.take(cause)) {
+                return tape.refuse();
             }
             town.putAt(judge, hour, cause);
             return true;
         }
 
         boolean readInn() {
-            int hour = tape.needNumber(DAY_HOURS - 1);
+            int hour = tape.needNamed(Tape.INN, DAY_HOURS - 1);
             int crumbs = hour < 0 ? NONE : tape.needNumber(MOST_INN);
             if (crumbs < 0) {
                 return false;
@@ -891,7 +901,6 @@ public final class HungryBench {
     /** Reads LINES of THE LAW into rules, which are thrown away if one is wrong. */
     private static final class LawText extends Text {
         static final int DEEPEST = 6;
-        static final int MOST_NUMBER = 999;
 
         final Law rules;
 
@@ -901,183 +910,99 @@ public final class HungryBench {
         }
 
         boolean readLine() {
-            int verb = verbHere();
-            if (verb < 0) {
-                return tape.refuse();
-            }
-            tape.step();
-            int amount = tape.needNumber(99);
-            if (amount < 0) {
+            int verb = tape.here();
+            if (tape.needFrom(Tape.MOVE, Tape.CRUMB) < 0) {
                 return false;
             }
-            if (tape.takeWord("if") && !readCondition(0)) {
+            int amount = tape.needNumber(99);
+            if (amount < 0 || tape.take(Tape.IF) && !readCondition(0)) {
                 return false;
             }
             rules.closeLine(verb, amount);
             return true;
         }
 
-        int verbHere() {
-            if (tape.isWord("move")) {
-                return Law.MOVE;
-            }
-            if (tape.isWord("harden")) {
-                return Law.HARDEN;
-            }
-            return tape.isWord("crumb") ? Law.CRUMB : NONE;
-        }
-
+        /** ATOMS with and, or between them: an and is put at once, an or when its ALL is whole. */
         private boolean readCondition(int depth) {
-            boolean right = readAtoms(depth);
-            for (int n = 0; n < TAPE_ROOM && right && tape.takeWord("or"); n++) {
-                right = readAtoms(depth);
-                rules.add(Law.OR);
+            boolean or = false;
+            boolean and = false;
+            for (int n = 0; n < TAPE_ROOM; n++) {
+                if (!readAtom(depth)) {
+                    return false;
+                }
+                if (and) {
+                    rules.add(Tape.AND);
+                }
+                and = tape.take(Tape.AND);
+                if (!and) {
+                    if (or) {
+                        rules.add(Tape.OR);
+                    }
+                    or = tape.take(Tape.OR);
+                    if (!or) {
+                        return true;
+                    }
+                }
             }
-            return right;
-        }
-
-        private boolean readAtoms(int depth) {
-            boolean right = readAtom(depth);
-            for (int n = 0; n < TAPE_ROOM && right && tape.takeWord("and"); n++) {
-                right = readAtom(depth);
-                rules.add(Law.AND);
-            }
-            return right;
+            return tape.refuse();
         }
 
         private boolean readAtom(int depth) {
-            boolean not = tape.isWord("not");
-            if (not || tape.isSign('(')) {
-                if (depth >= DEEPEST) {
+            int thing = tape.here();
+            if (thing == Tape.NOT || thing == Law.OPENS) {
+                if (depth >= DEEPEST || !tape.take(thing)) {
                     return tape.refuse();
                 }
-                tape.step();
-                return not ? readNegated(depth + 1) : readBracket(depth + 1);
+                if (thing == Law.OPENS) {
+                    return readCondition(depth + 1) && tape.need(Law.CLOSES);
+                }
+                return readAtom(depth + 1) && rules.add(Tape.NOT);
             }
-            int said = saidHere();
-            if (said >= 0) {
-                tape.step();
-                rules.add(Law.FACTS + said);
-                return true;
+            if (thing >= Tape.LEANING && thing <= Tape.LATE) {
+                return tape.take(thing) && rules.add(thing);
             }
             return readComparison();
         }
 
-        private boolean readNegated(int depth) {
-            if (!readAtom(depth)) {
-                return false;
+        /** Part by part: SUM < SUM, or SUM > SUM. */
+        private boolean readComparison() {
+            int sign = NONE;
+            boolean plus = false;
+            for (int n = 0; n < TAPE_ROOM; n++) {
+                int part = tape.needFrom(0, Tape.HOUR);
+                if (part < 0) {
+                    return false;
+                }
+                rules.add(part);
+                if (plus) {
+                    rules.add(Law.PLUS);
+                }
+                plus = tape.take(Law.PLUS);
+                if (!plus && sign >= 0) {
+                    return rules.add(sign);
+                }
+                if (!plus) {
+                    sign = tape.here();
+                    if (sign != Law.LESS && sign != Law.MORE || !tape.take(sign)) {
+                        return tape.refuse();
+                    }
+                }
             }
-            rules.add(Law.NOT);
-            return true;
-        }
-
-        private boolean readBracket(int depth) {
-            return readCondition(depth) && tape.needSign(')');
-        }
-
-        boolean readComparison() {
-            if (!readSum()) {
-                return false;
-            }
-            boolean less = tape.isSign('<');
-            if (!less && !tape.isSign('>')) {
-                return tape.refuse();
-            }
-            tape.step();
-            if (!readSum()) {
-                return false;
-            }
-            rules.add(less ? Law.LESS : Law.MORE);
-            return true;
-        }
-
-        boolean readSum() {
-            boolean right = readPart();
-            for (int n = 0; n < TAPE_ROOM && right && tape.takeSign('+'); n++) {
-                right = readPart();
-                rules.add(Law.PLUS);
-            }
-            return right;
-        }
-
-        boolean readPart() {
-            int named = namedHere();
-            if (named >= 0) {
-                tape.step();
-                rules.add(Law.FACTS + named);
-                return true;
-            }
-            int number = tape.needNumber(MOST_NUMBER);
-            if (number < 0) {
-                return false;
-            }
-            rules.add(number);
-            return true;
-        }
-
-        /** Which fact that holds or not the word here names; NONE. */
-        int saidHere() {
-            if (tape.isWord("leaning")) {
-                return Law.LEANING;
-            }
-            if (tape.isWord("precedent")) {
-                return Law.PRECEDENT;
-            }
-            return tape.isWord("late") ? Law.LATE : NONE;
-        }
-
-        /** Which number the word here names; NONE. */
-        int namedHere() {
-            if (tape.isWord("judge")) {
-                return Law.JUDGE;
-            }
-            if (tape.isWord("hunger")) {
-                return Law.HUNGER;
-            }
-            if (tape.isWord("nerve")) {
-                return Law.NERVE;
-            }
-            if (tape.isWord("kind")) {
-                return Law.KIND;
-            }
-            if (tape.isWord("grave")) {
-                return Law.GRAVE;
-            }
-            if (tape.isWord("worth")) {
-                return Law.WORTH;
-            }
-            return tape.isWord("hour") ? Law.HOUR : NONE;
+            return tape.refuse();
         }
     }
 
-    /** THE LAW as steps of a stack: each line's condition in its own stretch of the code. */
+    /** THE LAW: the things of each condition in the order in which a stack works them off. */
     private static final class Law {
         static final int MOST_LINES = 12;
+        static final int OPENS = Tape.SIGN + '(';
+        static final int CLOSES = Tape.SIGN + ')';
+        static final int PLUS = Tape.SIGN + '+';
+        static final int LESS = Tape.SIGN + '<';
+        static final int MORE = Tape.SIGN + '>';
 
-        static final int MOVE = 0;
-        static final int HARDEN = 1;
-        static final int CRUMB = 2;
-
-        static final int JUDGE = 0;
-        static final int HUNGER = 1;
-        static final int NERVE = 2;
-        static final int KIND = 3;
-        static final int GRAVE = 4;
-        static final int WORTH = 5;
-        static final int HOUR = 6;
-        static final int LEANING = 7;
-        static final int PRECEDENT = 8;
-        static final int LATE = 9;
-        static final int FACTS_TOLD = 10;
-
-        /** Steps below FACTS are numbers themselves; those from FACTS on name a fact. */
-        static final int FACTS = 1000;
-        static final int NOT = 1100;
-        static final int PLUS = 1101;
-        static final int LESS = 1102;
-        static final int MORE = 1103;
-        static final int AND = 1104;
-        static final int OR = 1105;
+        /** The words of facts are the first, so that a fact stands in its row by its word's number. */
+        static final int FACTS = Tape.LATE - Tape.WORD + 1;
 
         /** Seven levels keep two halves each, the innermost sums three: 17. */
         static final int STACK_ROOM = 32;
@@ -1104,11 +1029,13 @@ public final class HungryBench {
             System.arraycopy(other.code, 0, code, 0, TAPE_ROOM);
         }
 
-        void add(int step) {
+        /** Always true: a thing yields one step at most, so that the code has room for all of a tape. */
+        boolean add(int step) {
             if (steps < TAPE_ROOM) {
                 code[steps] = step;
                 steps++;
             }
+            return true;
         }
 
         void closeLine(int verb, int amount) {
@@ -1133,45 +1060,35 @@ public final class HungryBench {
             return sum;
         }
 
+        /** Whether a condition holds; one without steps does. */
         boolean holds(int from, int to, int[] facts) {
             int top = 0;
             for (int i = from; i < to; i++) {
-                top = run(code[i], top, facts);
-            }
-            return top <= 0 || stack[0] != 0;
-        }
-
-        /** Runs one step: how many values stand on the stack then. */
-        int run(int step, int top, int[] facts) {
-            if (step < NOT) {
-                int fact = step - FACTS;
-                if (top < STACK_ROOM && fact < FACTS_TOLD) {
-                    stack[top] = fact < 0 ? step : facts[fact];
-                    return top + 1;
+                int step = code[i];
+                int fact = step - Tape.WORD;
+                if (fact < FACTS) {
+                    if (top < STACK_ROOM) {
+                        stack[top] = fact < 0 ? step : facts[fact];
+                        top++;
+                    }
+                } else if (step == Tape.NOT) {
+                    if (top >= 1) {
+                        stack[top - 1] = 1 - stack[top - 1];
+                    }
+                } else if (top >= 2) {
+                    top--;
+                    int left = stack[top - 1];
+                    int right = stack[top];
+                    switch (step) {
+                        case PLUS: stack[top - 1] = left + right; break;
+                        case LESS: stack[top - 1] = left < right ? 1 : 0; break;
+                        case MORE: stack[top - 1] = left > right ? 1 : 0; break;
+                        case Tape.AND: stack[top - 1] = left & right; break;
+                        default: stack[top - 1] = left | right; break;
+                    }
                 }
-                return top;
             }
-            if (step == NOT) {
-                if (top >= 1) {
-                    stack[top - 1] = 1 - stack[top - 1];
-                }
-                return top;
-            }
-            if (top < 2) {
-                return top;
-            }
-            stack[top - 2] = joined(step, stack[top - 2], stack[top - 1]);
-            return top - 1;
-        }
-
-        static int joined(int step, int left, int right) {
-            switch (step) {
-                case PLUS: return left + right;
-                case LESS: return left < right ? 1 : 0;
-                case MORE: return left > right ? 1 : 0;
-                case AND: return left & right;
-                default: return left | right;
-            }
+            return top == 0 || stack[0] != 0;
         }
     }
 
@@ -1425,7 +1342,7 @@ public final class HungryBench {
     private static final class Court {
         final Town town;
         final Law rules;
-        final int[] facts = new int[Law.FACTS_TOLD];
+        final int[] facts = new int[Law.FACTS];
 
         Court(Town town, Law rules) {
             this.town = town;
@@ -1433,49 +1350,46 @@ public final class HungryBench {
         }
 
         void tellFacts(int judge, int cause, int hour, int hunger) {
-            facts[Law.JUDGE] = judge;
-            facts[Law.HUNGER] = hunger;
-            facts[Law.NERVE] = town.nerve[judge];
-            facts[Law.HOUR] = hour;
-            facts[Law.LATE] = hour >= LATE_HOUR ? 1 : 0;
             boolean told = cause >= 0;
             int lean = told ? town.leans[cause] : NONE;
-            facts[Law.KIND] = told ? town.kinds[cause] : KINDS;
-            facts[Law.GRAVE] = told ? town.graves[cause] : 0;
-            facts[Law.WORTH] = told ? town.worths[cause] : 0;
-            facts[Law.LEANING] = lean >= 0 ? 1 : 0;
-            facts[Law.PRECEDENT] = lean >= 0 && town.states[lean] == FREED ? 1 : 0;
+            facts[Tape.JUDGE - Tape.WORD] = judge;
+            facts[Tape.HUNGER - Tape.WORD] = hunger;
+            facts[Tape.NERVE - Tape.WORD] = town.nerve[judge];
+            facts[Tape.KIND - Tape.WORD] = told ? town.kinds[cause] : KINDS;
+            facts[Tape.GRAVE - Tape.WORD] = told ? town.graves[cause] : 0;
+            facts[Tape.WORTH - Tape.WORD] = told ? town.worths[cause] : 0;
+            facts[Tape.HOUR - Tape.WORD] = hour;
+            facts[Tape.LEANING - Tape.WORD] = lean >= 0 ? 1 : 0;
+            facts[Tape.PRECEDENT - Tape.WORD] = lean >= 0 && town.states[lean] == FREED ? 1 : 0;
+            facts[Tape.LATE - Tape.WORD] = hour >= LATE_HOUR ? 1 : 0;
         }
 
         /** POINT, with a hunger and a grave that may be other than those that are. */
         int weigh(int judge, int cause, int hour, int hunger, int grave) {
             tellFacts(judge, cause, hour, hunger);
-            facts[Law.GRAVE] = grave;
-            return hunger + town.mercy[judge] + rules.sumOf(Law.MOVE, facts)
-                    - grave - rules.sumOf(Law.HARDEN, facts);
+            facts[Tape.GRAVE - Tape.WORD] = grave;
+            return hunger + town.mercy[judge] + rules.sumOf(Tape.MOVE, facts)
+                    - grave - rules.sumOf(Tape.HARDEN, facts);
         }
 
         int crumbsOf(int judge, int cause) {
             tellFacts(judge, cause, town.hour, town.hunger[judge]);
-            int likely = town.inns[town.hour] + rules.sumOf(Law.CRUMB, facts) - 10 * town.nerve[judge];
+            int likely = town.inns[town.hour] + rules.sumOf(Tape.CRUMB, facts) - 10 * town.nerve[judge];
             return Math.max(0, likely);
         }
 
-        int pointWith(int judge, int cause, int hour, int hunger) {
-            return weigh(judge, cause, hour, hunger, town.graves[cause]);
-        }
-
         int pointOf(int judge, int cause, int hour) {
-            return pointWith(judge, cause, hour, town.hunger[judge]);
+            return weigh(judge, cause, hour, town.hunger[judge], town.graves[cause]);
         }
 
         int wouldBe(int judge, int cause, int hour) {
             int more = Math.max(0, hour - town.hour);
-            return pointWith(judge, cause, hour, Math.min(MOST_HUNGER, town.hunger[judge] + more));
+            int hunger = Math.min(MOST_HUNGER, town.hunger[judge] + more);
+            return weigh(judge, cause, hour, hunger, town.graves[cause]);
         }
 
         boolean freesNow(int judge, int cause) {
-            return pointOf(judge, cause, town.hour) >= 0;
+            return weigh(judge, cause, town.hour, town.hunger[judge], town.graves[cause]) >= 0;
         }
 
         /** By how many JUDGES a CASE would be freed in HOUR. */
@@ -1547,7 +1461,7 @@ public final class HungryBench {
 
         int movingHunger(int judge, int cause) {
             for (int hunger = 0; hunger <= MOST_HUNGER; hunger++) {
-                if (pointWith(judge, cause, town.hour, hunger) >= 0) {
+                if (weigh(judge, cause, town.hour, hunger, town.graves[cause]) >= 0) {
                     return hunger;
                 }
             }
@@ -1565,7 +1479,8 @@ public final class HungryBench {
 
         /** Whether one whose HUNGER in HOUR 0 was that would free a CASE in an HOUR. */
         boolean freesHaving(int firstHunger, int judge, int cause, int hour) {
-            return pointWith(judge, cause, hour, Math.min(MOST_HUNGER, firstHunger + hour)) >= 0;
+            int hunger = Math.min(MOST_HUNGER, firstHunger + hour);
+            return weigh(judge, cause, hour, hunger, town.graves[cause]) >= 0;
         }
 
         /** The first HUNGERS that fit all rows (HOUR, CASE, freed or not), as bits. */
@@ -1644,15 +1559,14 @@ public final class HungryBench {
                 int c = town.waitingAt(j, town.hour);
                 heard[j] = c;
                 if (c >= 0) {
-                    hear(j, c);
+                    find(j, c, court.pointOf(j, c, town.hour));
                     sum++;
                 }
             }
             return sum;
         }
 
-        void hear(int judge, int cause) {
-            int point = court.pointOf(judge, cause, town.hour);
+        void find(int judge, int cause, int point) {
             int found = point >= 0 ? FREED : HANGED;
             town.states[cause] = found;
             town.by[cause] = judge;
@@ -1718,9 +1632,9 @@ public final class HungryBench {
             this.court = court;
         }
 
+        /** SAVED, by the places that are open. */
         int savedCases() {
             int waiting = town.inState(WAITING);
-            openPlaces(waiting);
             int asked = 0;
             int set = 0;
             for (int n = 0; n < town.cases; n++) {
@@ -1735,12 +1649,12 @@ public final class HungryBench {
             return set;
         }
 
-        int neededHours() {
-            int set = savedCases();
+        /** In how few HOURS all of a set have places that are open. */
+        int hoursFor(int set) {
+            long hours = 0;
             if (set == 0) {
                 return 0;
             }
-            long hours = 0;
             for (int h = town.hour; h < DAY_HOURS; h++) {
                 for (int j = 0; j < town.judges; j++) {
                     hours |= 1L << j * DAY_HOURS + h;
@@ -1752,10 +1666,10 @@ public final class HungryBench {
             return 0;
         }
 
-        void openPlaces(int waiting) {
+        void openPlaces() {
             for (int c = 0; c < town.cases; c++) {
                 open[c] = 0;
-                for (int j = 0; j < town.judges && (waiting >> c & 1) != 0; j++) {
+                for (int j = 0; j < town.judges && town.states[c] == WAITING; j++) {
                     for (int h = town.hour; h < DAY_HOURS; h++) {
                         if (court.wouldBe(j, c, h) >= 0) {
                             open[c] |= 1L << j * DAY_HOURS + h;
