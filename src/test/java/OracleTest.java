@@ -9,7 +9,7 @@ import java.util.Random;
 /** Random runs of calls on the class and on the oracle: each answer, each exception must be the same. */
 public final class OracleTest {
     private static final int RUNS = Integer.getInteger("hungry.runs", 1500);
-    private static final int CALLS = 400;
+    private static final int CALLS = 480;
     private static final String[] ACTS = {
         "hours", "list", "strike", "feeds", "fast", "inn", "appeal", "grave", "undo", "seed", "image", "back",
     };
@@ -50,9 +50,15 @@ public final class OracleTest {
     private String run() throws Exception {
         String fault = random.nextInt(10) == 0 ? null : text(true);
         fault = fault != null || random.nextInt(5) == 0 ? fault : text(false);
+        if (fault == null && random.nextInt(3) == 0) {
+            fault = crowd();
+        }
+        int busy = random.nextInt(3) == 0 ? 40 : 5;
         while (fault == null && left > 0) {
             int sort = random.nextInt(100);
-            if (sort < 3) {
+            if (random.nextInt(100) < busy) {
+                fault = hearing();
+            } else if (sort < 3) {
                 fault = text(true);
             } else if (sort < 5) {
                 fault = text(false);
@@ -72,6 +78,25 @@ public final class OracleTest {
         String fault = tape(text);
         fault = fault != null ? fault : call(assize ? "assize" : "law");
         return fault != null ? fault : call("fault");
+    }
+
+    /** As many judges and cases as there may be. */
+    private String crowd() throws Exception {
+        String fault = null;
+        for (int n = 0; n < 13 && fault == null && (oracle.count(0) < 5 || oracle.count(1) < 8); n++) {
+            fault = tape(oracle.count(0) < 5 ? texts.judgeLine() : texts.caseLine(oracle.count(1)));
+            fault = fault != null ? fault : call("assize");
+        }
+        return fault;
+    }
+
+    /** A case is heard in this hour, and waits again: what fills the log. */
+    private String hearing() throws Exception {
+        int judge = argument("judge");
+        int cause = argument("cause");
+        String fault = call("list", judge, oracle.count(4), cause);
+        fault = fault != null ? fault : call("hours", 1);
+        return fault != null || random.nextInt(3) == 0 ? fault : call("appeal", cause);
     }
 
     /** Rows of MEALS, most of them what a judge of some hunger would have found. */

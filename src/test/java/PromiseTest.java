@@ -208,9 +208,29 @@ public final class PromiseTest {
         x.end(5);
         x.assize();
         due("day", x.count(5), 9);
+        x.feed(0x64617920, 0x31313131, 0x31313131, 0, 0);
+        x.end(5);
+        x.assize();
+        due("its first bytes alone", x.count(5), 1);
+        x.feed(0x64617920, 0x39393939, 0x39393939, 0, 0);
+        x.end(4);
+        refused("no number among its first bytes", ARGUMENT, x::assize);
+        due("fault", x.fault(), 4);
         tape(x, "day x");
         refused("a wrong text", ARGUMENT, x::assize);
         due("the tape is used up by a wrong text", x.end(1), false);
+        for (int n = 0; n < 20; n++) {
+            x.feed(0x28282828, 0x28282828, 0x28282828, 0x28282828, 0x28282828);
+        }
+        refused("400 things", ARGUMENT, x::law);
+        due("fault", x.fault(), 0);
+        for (int n = 0; n < 20; n++) {
+            x.feed(0x20202020, 0x20202020, 0x20202020, 0x20202020, 0x20202020);
+        }
+        due("400 blanks", x.law(), 0);
+        String brimful = "move 9 if 1" + "+1".repeat(193) + ">1";
+        tape(x, brimful.substring(0, 397) + ">19");
+        due("a law of 400 bytes", x.law(), 1);
         tape(x, "tax");
         refused("a wrong law", ARGUMENT, x::law);
         due("the tape is used up by a wrong law", x.end(1), false);
@@ -241,6 +261,7 @@ public final class PromiseTest {
         tape(x, "list 0 0 0;list 2 11 1;list 0 0 2;list 1 0 0");
         x.assize();
         due("what stood there stands nowhere, and may stand again", x.listed(1, 0), 0);
+        due("in the list", x.count(7), 7);
         due("in its place", x.listed(0, 0), 2);
         due("last place", x.listed(2, 11), 1);
         tape(x, "inn 11 100;inn 0 0;hour 11;day 999");
@@ -280,6 +301,11 @@ public final class PromiseTest {
     private static void assizeFaults() {
         promise = "4 assize, 6 fault";
         badAssize("bench", 0);
+        badAssize("dayz 1", 0);
+        badAssize("aday 1", 0);
+        badAssize("list", 4);
+        badAssize("list 0", 6);
+        badAssize("inn", 3);
         badAssize("  bench", 2);
         badAssize("judges", 0);
         badAssize("Judge mercy 1 nerve 1", 0);
@@ -403,7 +429,15 @@ public final class PromiseTest {
         x.hours(1);
         due("case 0 is freed", x.cause(0, 4), 1);
         holds(x, "precedent", 1, 0, true);
+        holds(x, "not precedent", 1, 0, false);
         holds(x, "precedent", 2, 0, false);
+        holds(x, "leaning or (late)", 1, 0, true);
+        holds(x, "late and (leaning)", 1, 0, false);
+        holds(x, "late and (leaning or leaning)", 1, 0, false);
+        holds(x, "late or late and leaning or leaning and leaning", 1, 0, true);
+        holds(x, "late or late and leaning or late and leaning", 1, 0, false);
+        holds(x, "1 + 2 + 3 > 2 + 3 and 1 < 1 + 1 + 1", 0, 0, true);
+        holds(x, "1 + 2 + 3 > 2 + 3 + 1", 0, 0, false);
     }
 
     private static void lawFaults() {
@@ -468,6 +502,11 @@ public final class PromiseTest {
         due("crumbs without a case", x.judge(2, 4), 60 + 7 + 1 - 50);
         x.inn(3, 10);
         due("crumbs are 0 at least", x.judge(2, 4), 0);
+        tape(x, "crumb 50 if grave > 0 or worth > 0 or leaning or precedent or kind < 6;crumb 3 if kind < 7");
+        x.law();
+        x.inn(3, 60);
+        x.point(2, 2, 3);
+        due("without a case: nothing of another one", x.judge(2, 4), 13);
         HungryBench y = town("judge mercy 99 nerve 0;judge mercy 99 nerve 0;case a grave 1;case a grave 1;"
                 + "case a grave 1;case b grave 99;list 0 0 0;list 1 0 1;list 1 1 2");
         due("share of none", y.judge(0, 6), 0);
@@ -525,6 +564,21 @@ public final class PromiseTest {
         due("not behind 11", x.cause(1, 11), -1);
         x.grave(1, 48);
         due("as late as 11", x.cause(1, 11), 7);
+        HungryBench f = town("judge mercy 1 nerve 0;judge mercy 2 nerve 0;case a grave 2;case b grave 3;list 0 0 0;"
+                + "hour 0;day 0");
+        due("first place, judge", f.cause(0, 7), 0);
+        due("first place, hour", f.cause(0, 8), 0);
+        due("put off by one", f.cause(0, 11), 1);
+        due("bench in hour 0", f.cause(0, 10), 1);
+        due("in the list", f.count(7), 1);
+        f.list(0, 0, 1);
+        due("put off by two", f.cause(1, 11), 2);
+        due("in the list", f.count(7), 2);
+        f.fast(0, 2);
+        due("not put off", f.cause(1, 11), 0);
+        due("bench of several the least", f.cause(0, 10), 0);
+        f.list(1, 5, 1);
+        due("taken from the first place", f.listed(0, 0), -1);
         HungryBench y = town("case a grave 0");
         due("no bench without judges", y.cause(0, 10), -1);
         due("no shares without judges", y.cause(0, 12), -1);
@@ -645,6 +699,27 @@ public final class PromiseTest {
         HungryBench h = under("crumb 39 if hunger > 0", TWO);
         h.hours(1);
         due("the hunger behind (b)", h.state(3), 1);
+        HungryBench k = under("crumb 39 if kind < 1;crumb 59 if kind > 0 and kind < 6 or kind > 6", TWO);
+        k.seed(0);
+        due("the draw of seed 0 is 0", k.hours(1), 1);
+        k.appeal(0);
+        k.seed(1103527590);
+        k.hours(1);
+        due("by the case of this hour, not of the one ahead", k.state(3), 2);
+        HungryBench e = under("crumb 99 if kind < 6;crumb 99 if kind < 6", TWO);
+        e.hours(1);
+        e.appeal(0);
+        e.strike(0, 1);
+        e.hours(1);
+        due("without a case behind one with", e.judge(0, 0), 1);
+        // case 0 is undone, then case 1 that leans on it is freed by another, then crumbs come to the first again
+        HungryBench o = town("judge mercy 50 nerve 0;judge mercy 50 nerve 9;case a grave 1;case a grave 1 on 0;"
+                + "list 0 0 0;list 1 1 1;inn 0 39;inn 1 100");
+        o.hours(2);
+        due("nothing is undone by what is undone already", o.state(1), 2);
+        due("rows", o.count(9), 3);
+        due("a judge in the log", o.log(0, 4), 1);
+        due("crumbles none", o.crumbles(0), 0);
         // both judges' findings of another day, and cases that lean on those of this day
         HungryBench l = town("judge mercy 50 nerve 9;judge mercy 50 nerve 9;case a grave 9;case a grave 9 on 0;"
                 + "case a grave 9 on 1;case a grave 9 on 0;case a grave 9;list 0 0 4");
@@ -679,6 +754,7 @@ public final class PromiseTest {
         due("fed", x.judge(0, 0), 0);
         due("fast", x.fast(0, 40), 0);
         due("fast, no more", x.fast(0, 40), 40);
+        due("fast of none", town(TWO).fast(0, 0), 0);
         due("fast to the most", x.fast(0, 99), 40);
         due("fasted", x.judge(0, 0), 99);
         due("inn", x.inn(3, 100), 60);
@@ -769,6 +845,7 @@ public final class PromiseTest {
         due("saved by worth", y.saved(false), 5);
         due("saved worth", y.saved(true), 11);
         due("needed", y.needed(), 1);
+        due("needed, asked first", town(BENCH).needed(), 1);
         tape(y, "hour 10");
         y.assize();
         // case 2 gives way to judge 1, so that both others find judge 0 in two hours
@@ -815,6 +892,8 @@ public final class PromiseTest {
 
     private static void leaning() {
         promise = "27 deep, 28 roots";
+        due("roots", town(BENCH).roots(), 1);
+        due("deep", town(BENCH).deep(), 3);
         HungryBench x = town("case a grave 1");
         due("deep of one", x.deep(), 1);
         due("no roots", x.roots(), 0);
@@ -856,6 +935,22 @@ public final class PromiseTest {
         due("try of none", x.tries(0), -1);
         tape(x, "\u0000\u0000\u0000\u0001\u0000\u0001");
         due("try of one (19)", x.tries(0), -1);
+        tape(x, "\u0000\u0000\u0000\u0002\u0000\u0001");
+        due("try of two (18, 19), alike", x.tries(0), 0);
+        tape(x, "\u0001\u0000\u0000\u0003\u0000\u0001");
+        due("try of two (17, 18), parted by case 0", x.tries(0), 0);
+        HungryBench z = town("judge mercy 0 nerve 0;case a grave 99;case a grave 1;case a grave 60");
+        tape(z, "\u0001\u0002\u0001\u0000\u0002\u0000");
+        due("try of one (59)", z.tries(0), -1);
+        tape(z, "\u0001\u0001\u0001\u0000\u0002\u0000");
+        due("0 is parted from 1 to 59", z.tries(0), 1);
+        HungryBench t = town("judge mercy 0 nerve 0;case a grave 99;case a grave 1;case a grave 2");
+        tape(t, "\u0000\u0002\u0000");
+        due("0 is parted from 1", t.tries(0), 1);
+        tape(z, "\u0002\u0002\u0001\u0000\u0002\u0001");
+        due("60 alone", z.meals(0, false), 1);
+        tape(z, "\u0000\u0001\u0000");
+        due("0 alone", z.meals(0, true), 0);
         tape(x, "\u0000\u0001\u0001");
         due("all alike: the least", x.tries(0), 0);
         x.list(0, 2, 0);
@@ -902,6 +997,17 @@ public final class PromiseTest {
         tape(x, "harden 30 if hunger > 34 and hunger < 50;move 9 if hour > 3");
         x.law();
         due("moved by law", x.moved(0, 0), 50);
+        x.grave(3, 99);
+        due("moved by 99 alone", x.moved(2, 3), 99);
+        tape(x, "harden 30 if hunger > 98");
+        x.law();
+        due("moved none", x.moved(2, 3), -1);
+        tape(x, "move 38");
+        x.law();
+        due("even 99", x.even(2, 0), 99);
+        tape(x, "move 39");
+        x.law();
+        due("even none", x.even(2, 0), -1);
         tape(x, "harden 99 if hunger > 0;harden 99");
         x.law();
         due("moved none", x.moved(0, 0), -1);
@@ -941,6 +1047,13 @@ public final class PromiseTest {
         due("rather than 2", y.rather(0, 2), 1);
         due("rather than 0", y.rather(0, 0), 0);
         due("35 for 1", y.judge(1, 8), 1);
+        String three = times("judge mercy 1 nerve 1", 3) + ";judge mercy 1 nerve 1 hunger 9 pay ";
+        due("11 and 23, and 34", town(three + "23").judge(3, 8), 2);
+        due("11 and 24, and 34", town(three + "24").judge(3, 8), 3);
+        String four = times("judge mercy 1 nerve 1", 4) + ";judge mercy 1 nerve 1 hunger 9 pay ";
+        due("28 and 6, and 34", town(four + "6").judge(4, 8), 2);
+        due("28 and 7, and 34", town(four + "7").judge(4, 8), 4);
+        due("28 and 7: rather than 2", town(four + "7").rather(4, 2), 16);
         refused("no such judge", INDEX, () -> y.rather(2, 0));
         refused("no such circuit", INDEX, () -> y.rather(0, 5));
         refused("no such circuit", INDEX, () -> y.rather(0, -1));
@@ -965,6 +1078,13 @@ public final class PromiseTest {
         due("not one that waits", x.worth(), 2);
         x.fast(0, 99);
         due("50 less 9", x.worth(), 3);
+        x.grave(1, 50);
+        x.grave(2, 49);
+        x.appeal(3);
+        due("6 less 4", x.worth(), 2);
+        HungryBench y = town(TWO + ";inn 0 100");
+        y.hours(1);
+        due("one undone", y.worth(), 0);
         due("none without judges", town("case a grave 0").worth(), -1);
     }
 
@@ -992,6 +1112,22 @@ public final class PromiseTest {
         }
         due("all alike", y.pairs(-1), 0);
         due("agree", y.agree(), 7);
+        y.feeds(3);
+        y.grave(0, 31);
+        y.grave(1, 31);
+        y.grave(2, 31);
+        y.fast(3, 1);
+        due("3 alone frees all", y.pairs(-1), 3);
+        int[] late = {-1, -1, -1, 4, 3};
+        for (int j = 0; j < 5; j++) {
+            due("3 alone frees all, the first way: with whom " + j, y.pairs(j), late[j]);
+        }
+        y.fast(4, 1);
+        due("3 and 4 free all", y.pairs(-1), 6);
+        int[] both = {-1, 3, 4, 1, 2};
+        for (int j = 0; j < 5; j++) {
+            due("3 and 4 free all, the first way: with whom " + j, y.pairs(j), both[j]);
+        }
         due("agree without judges", town("case a grave 9;case a grave 9").agree(), 3);
         refused("no such judge", INDEX, () -> y.pairs(5));
         refused("no such judge", INDEX, () -> y.pairs(-2));
@@ -1035,6 +1171,8 @@ public final class PromiseTest {
         promise = "39 hungriest to 43 twins";
         HungryBench x = town(BENCH);
         due("hungriest", x.hungriest(), 2);
+        due("hungriest, the first", town("judge mercy 0 nerve 0 hunger 9;judge mercy 0 nerve 0 hunger 8;"
+                + "judge mercy 0 nerve 0 hunger 9").hungriest(), 0);
         x.fast(1, 60);
         due("of several the least", x.hungriest(), 1);
         due("gravest", x.gravest(), 3);
@@ -1097,6 +1235,16 @@ public final class PromiseTest {
         }
         x.hours(1);
         due("those that were freed are freed then", x.trial(0, false), 1);
+        due("ahead of what is now", x.ahead(0, 0), 1);
+        due("ahead of what is now", x.ahead(1, 1), 2);
+        // third draws of seeds 1 to 6: 13, 39, 65, 91, 16, 42; ninth: 12, 2, 92, 82, 72, 95; tenth: 86, .. 83 at most
+        due("undone from seed 1 alone", town(TWO + ";inn 2 14").span(3, false), 0);
+        due("freed from the others", town(TWO + ";inn 2 14").span(3, true), 3);
+        due("undone from none", town(TWO + ";inn 2 13").span(3, false), 3);
+        due("freed from seed 6 alone", town(TWO + ";inn 8 95").span(9, true), 3);
+        due("freed from none", town(TWO + ";inn 8 96").span(9, true), 0);
+        due("freed from seed 1 alone", town(TWO + ";inn 9 86").span(10, true), 3);
+        due("freed from none", town(TWO + ";inn 9 87").span(10, true), 0);
     }
 
     private static void logs() {
@@ -1127,6 +1275,21 @@ public final class PromiseTest {
         due("the oldest's day", x.log(59, 0), 7);
         due("behind the oldest", x.log(60, 0), -1000);
         due("ahead of the latest", x.log(-1, 0), -1000);
+        x.image();
+        x.list(0, x.count(4), 1);
+        x.hours(1);
+        due("one more row", x.led(1, false), 1);
+        due("the oldest is gone", x.log(59, 1), 2);
+        due("trial, for nothing", x.trial(40, false), 0);
+        x.undo();
+        due("undone: the oldest is back", x.log(59, 1), 1);
+        due("undone: the latest, too", x.log(0, 2), 0);
+        x.hours(1);
+        due("heard again", x.led(1, false), 1);
+        due("the oldest is gone again", x.log(59, 1), 2);
+        x.back();
+        due("back: the oldest is back", x.log(59, 1), 1);
+        due("back: the latest, too", x.log(0, 5), 60 - 99);
         refused("no such case", INDEX, () -> x.led(2, false));
         refused("no such case", INDEX, () -> x.led(-1, true));
     }
@@ -1150,11 +1313,17 @@ public final class PromiseTest {
         due("acts", x.count(10), 8);
         due("undo appeal", x.undo(), true);
         due("hanged again", x.cause(3, 4), 2);
+        due("by him", x.cause(3, 5), 2);
+        due("on that day", x.cause(3, 6), 2);
+        due("in the log", x.log(0, 4), 2);
         x.seed(9);
         due("undo hours", x.undo(), true);
         due("hours of one call are one", x.count(4), 3);
         due("day", x.count(5), 2);
         due("rows", x.count(9), 0);
+        due("by none", x.cause(3, 5), -1);
+        due("on no day", x.cause(3, 6), -1);
+        due("hunger of all", x.count(8), 110);
         due("seed as ahead of it", x.seed(1), 1);
         due("list as ahead of it", x.listed(0, 3), 0);
         x.undo();

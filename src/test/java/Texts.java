@@ -77,13 +77,13 @@ final class Texts {
         return spoil(s.toString());
     }
 
-    private String judgeLine() {
+    String judgeLine() {
         String s = join("judge", "mercy", number(below(2) == 0 ? 99 : 30), "nerve", number(below(2) == 0 ? 9 : 2));
         s += below(3) == 0 ? "" : blank() + join("hunger", number(below(3) == 0 ? 99 : 50));
         return s + (below(2) == 0 ? "" : blank() + join("pay", number(below(2) == 0 ? 99 : 40)));
     }
 
-    private String caseLine(int cases) {
+    String caseLine(int cases) {
         String kind = String.valueOf((char) ('a' + below(rarely() ? 8 : below(2) == 0 ? 2 : 6)));
         String grave = below(3) == 0 ? number(99) : String.valueOf(10 * below(8));
         String s = join("case", kind, "grave", grave);
@@ -92,6 +92,9 @@ final class Texts {
     }
 
     String law() {
+        if (rarely()) {
+            return brimful();
+        }
         StringBuilder s = new StringBuilder();
         int lines = rarely() ? 11 + below(4) : 1 + below(5);
         for (int i = 0; i < lines; i++) {
@@ -143,6 +146,15 @@ final class Texts {
     private String part() {
         String[] names = {"judge", "hunger", "nerve", "kind", "grave", "worth", "hour"};
         return below(5) < 3 ? names[below(names.length)] : number(rarely() ? 999 : below(2) == 0 ? 60 : 9);
+    }
+
+    /** A law of 400 bytes, of which each is a thing or nearly so. */
+    private String brimful() {
+        StringBuilder s = new StringBuilder("move 9 if ");
+        while (s.length() < 398) {
+            s.append(below(3) == 0 ? "5+" : below(60) == 0 ? "6<" : "1+");
+        }
+        return s.append(below(2) == 0 ? "9" : ">9").toString();
     }
 
     /** Puts an odd thing in, takes a piece out, or cuts the text, now and then. */
