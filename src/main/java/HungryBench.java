@@ -649,13 +649,10 @@ public final class HungryBench {
         void open() {
             int stop = useUp();
             int count = 0;
-            int next = 0;
-            while (next < stop) {
-                int start = next;
-                next = endOfThing(start, stop);
-                if (bytes[start] != ' ') {
-                    starts[count] = start;
-                    things[count] = thingOf(start, next);
+            for (int i = 0; i < stop; i++) {
+                if (bytes[i] != ' ' && !goesOn(i)) {
+                    starts[count] = i;
+                    things[count] = thingAt(i, stop);
                     count++;
                 }
             }
@@ -665,21 +662,20 @@ public final class HungryBench {
             wrong = NONE;
         }
 
-        int endOfThing(int start, int stop) {
-            boolean word = isLetter(bytes[start]);
-            boolean number = isDigit(bytes[start]);
-            int next = start + 1;
-            while (next < stop && (word && isLetter(bytes[next]) || number && isDigit(bytes[next]))) {
-                next++;
-            }
-            return next;
+        /** Whether a byte is of the word or the number that the one ahead of it is of. */
+        boolean goesOn(int i) {
+            return i > 0 && (isLetter(bytes[i - 1]) && isLetter(bytes[i]) || isDigit(bytes[i - 1]) && isDigit(bytes[i]));
         }
 
-        int thingOf(int start, int stop) {
-            if (isLetter(bytes[start])) {
-                return wordOf(start, stop);
+        int thingAt(int start, int stop) {
+            int end = start + 1;
+            while (end < stop && goesOn(end)) {
+                end++;
             }
-            return isDigit(bytes[start]) ? numberOf(start, stop) : SIGN + bytes[start];
+            if (isLetter(bytes[start])) {
+                return wordOf(start, end);
+            }
+            return isDigit(bytes[start]) ? numberOf(start, end) : SIGN + bytes[start];
         }
 
         int wordOf(int start, int stop) {

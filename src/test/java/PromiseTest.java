@@ -569,6 +569,7 @@ public final class PromiseTest {
         due("first place, judge", f.cause(0, 7), 0);
         due("first place, hour", f.cause(0, 8), 0);
         due("put off by one", f.cause(0, 11), 1);
+        due("hour 0 is not free", f.judge(0, 7), 4094);
         due("bench in hour 0", f.cause(0, 10), 1);
         due("in the list", f.count(7), 1);
         f.list(0, 0, 1);
@@ -982,6 +983,9 @@ public final class PromiseTest {
         tape(x, "\u0000");
         refused("meals", ARGUMENT, () -> x.meals(0, true));
         due("fault is of texts", x.fault(), 8);
+        // case 0 is freed by 0 and 12 to 60 (50 of 61), case 1 by 0 and 50 to 60 (12 of 61)
+        HungryBench m = under("move 99 if hunger < 1", "judge mercy 0 nerve 0;case a grave 12;case a grave 50");
+        due("49 is less than 50", m.tries(0), 1);
         HungryBench n = town("judge mercy 10 nerve 0");
         due("try without cases", n.tries(0), -1);
     }
@@ -1131,6 +1135,10 @@ public final class PromiseTest {
         due("agree without judges", town("case a grave 9;case a grave 9").agree(), 3);
         refused("no such judge", INDEX, () -> y.pairs(5));
         refused("no such judge", INDEX, () -> y.pairs(-2));
+        HungryBench p = town("judge mercy 50 nerve 0;judge mercy 0 nerve 0;case a grave 10;case a grave 20;list 0 0 0");
+        due("two differ", p.pairs(-1), 2);
+        p.hours(1);
+        due("those that wait alone", p.pairs(-1), 1);
         HungryBench f = town(TWO);
         f.hours(1);
         due("those that wait alone", f.agree(), 0);
@@ -1155,6 +1163,7 @@ public final class PromiseTest {
         due("odds", x.odds(1, 2), 3350);
         due("odds", x.odds(1, 3), 2211);
         due("odds", x.odds(1, 4), 0);
+        due("odds where nobody bakes", town("judge mercy 0 nerve 9;inn 0 89").odds(0, 4), 10000);
         due("odds of nerve", x.odds(0, 1), 7000);
         due("odds of nerve", x.odds(0, 2), 6090);
         due("odds of nerve, rounded down", x.odds(0, 3), 5237);
@@ -1235,6 +1244,9 @@ public final class PromiseTest {
         }
         x.hours(1);
         due("those that were freed are freed then", x.trial(0, false), 1);
+        HungryBench z = town(TWO);
+        z.hours(1);
+        due("ahead of what is now, asked first", z.ahead(0, 0), 1);
         due("ahead of what is now", x.ahead(0, 0), 1);
         due("ahead of what is now", x.ahead(1, 1), 2);
         // third draws of seeds 1 to 6: 13, 39, 65, 91, 16, 42; ninth: 12, 2, 92, 82, 72, 95; tenth: 86, .. 83 at most
@@ -1283,12 +1295,14 @@ public final class PromiseTest {
         due("trial, for nothing", x.trial(40, false), 0);
         x.undo();
         due("undone: the oldest is back", x.log(59, 1), 1);
+        due("undone: the oldest's case", x.log(59, 2), 0);
         due("undone: the latest, too", x.log(0, 2), 0);
         x.hours(1);
         due("heard again", x.led(1, false), 1);
         due("the oldest is gone again", x.log(59, 1), 2);
         x.back();
         due("back: the oldest is back", x.log(59, 1), 1);
+        due("back: the oldest's case", x.log(59, 2), 0);
         due("back: the latest, too", x.log(0, 5), 60 - 99);
         refused("no such case", INDEX, () -> x.led(2, false));
         refused("no such case", INDEX, () -> x.led(-1, true));
