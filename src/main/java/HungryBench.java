@@ -664,7 +664,8 @@ public final class HungryBench {
 
         /** Whether a byte is of the word or the number that the one ahead of it is of. */
         boolean goesOn(int i) {
-            return i > 0 && (isLetter(bytes[i - 1]) && isLetter(bytes[i]) || isDigit(bytes[i - 1]) && isDigit(bytes[i]));
+            int ahead = i > 0 ? bytes[i - 1] : ' ';
+            return isLetter(ahead) && isLetter(bytes[i]) || isDigit(ahead) && isDigit(bytes[i]);
         }
 
         int thingAt(int start, int stop) {
