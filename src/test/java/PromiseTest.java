@@ -1,13 +1,5 @@
-import java.util.NoSuchElementException;
-
 /** Each promise of DOC.md by runs made by hand; the answers that are due were worked out on paper. */
-public final class PromiseTest {
-    private static final Class<?> INDEX = IndexOutOfBoundsException.class;
-    private static final Class<?> ARGUMENT = IllegalArgumentException.class;
-    private static final Class<?> STATE = IllegalStateException.class;
-    private static final Class<?> ELEMENT = NoSuchElementException.class;
-    private static final Class<?> UNSUPPORTED = UnsupportedOperationException.class;
-
+public final class PromiseTest extends Check {
     /** Points in hour 3, judge by judge: 40, 45 and 60 less how grave a case is. */
     private static final String BENCH = "judge mercy 10 nerve 2 hunger 30 pay 50;judge mercy 40 nerve 0 hunger 5;"
             + "judge mercy 0 nerve 5 hunger 60 pay 3;case a grave 45 worth 8;case b grave 30 worth 5 on 0;"
@@ -18,69 +10,7 @@ public final class PromiseTest {
     private static final String TWO = "judge mercy 50 nerve 0;case a grave 10 worth 3;case b grave 60 worth 4 on 0;"
             + "list 0 0 0;list 0 1 1";
 
-    private static int checks = 0;
-    private static int wrong = 0;
-    private static String promise = "";
-
-    private interface Call {
-        void go();
-    }
-
     private PromiseTest() {
-    }
-
-    private static void due(String what, long got, long want) {
-        checks++;
-        if (got != want) {
-            wrong++;
-            System.out.println(promise + ": " + what + " answered " + got + ", due is " + want);
-        }
-    }
-
-    private static void due(String what, boolean got, boolean want) {
-        due(what, got ? 1 : 0, want ? 1 : 0);
-    }
-
-    private static void refused(String what, Class<?> type, Call call) {
-        checks++;
-        Class<?> got = null;
-        try {
-            call.go();
-        } catch (RuntimeException e) {
-            got = e.getClass();
-        }
-        if (got != type) {
-            wrong++;
-            System.out.println(promise + ": " + what + " threw " + got + ", due is " + type);
-        }
-    }
-
-    private static void tape(HungryBench x, String text) {
-        x.end(0);
-        for (int i = 0; i < text.length(); i += 20) {
-            int[] n = new int[5];
-            for (int k = 0; k < 20; k++) {
-                n[k / 4] = n[k / 4] << 8 | (i + k < text.length() ? text.charAt(i + k) : 0);
-            }
-            x.feed(n[0], n[1], n[2], n[3], n[4]);
-        }
-        x.end(text.length());
-    }
-
-    private static HungryBench town(String... texts) {
-        HungryBench x = new HungryBench();
-        for (String text : texts) {
-            tape(x, text);
-            x.assize();
-        }
-        return x;
-    }
-
-    private static HungryBench under(String law, String... texts) {
-        HungryBench x = town(texts);
-        tape(x, law);
-        x.law();
-        return x;
     }
 
     private static void badAssize(String text, int fault) {
@@ -109,10 +39,6 @@ public final class PromiseTest {
         tape(x, "move 1 if " + condition);
         x.law();
         due(condition + " for case " + cause + " in hour " + hour, x.point(0, cause, hour) - without, want ? 1 : 0);
-    }
-
-    private static String times(String text, int n) {
-        return String.join(";", java.util.Collections.nCopies(n, text));
     }
 
     public static void main(String[] args) {
@@ -146,12 +72,11 @@ public final class PromiseTest {
         undone();
         images();
         counts();
-        System.out.println(checks + " checks of promises, " + wrong + " wrong");
-        System.exit(wrong == 0 ? 0 : 1);
+        end("PromiseTest");
     }
 
     private static void newObject() {
-        promise = "1 new";
+        label = "1 new";
         HungryBench x = new HungryBench();
         due("NONE", HungryBench.NONE, -1);
         for (int what = 0; what <= 10; what++) {
@@ -184,7 +109,7 @@ public final class PromiseTest {
     }
 
     private static void tapes() {
-        promise = "2 feed, 3 end";
+        label = "2 feed, 3 end";
         HungryBench x = new HungryBench();
         for (int n = 20; n <= 400; n += 20) {
             due("feed", x.feed(0x64617920, 0x37202020, 0x20202020, 0x20202020, 0x20202020), n);
@@ -237,7 +162,7 @@ public final class PromiseTest {
     }
 
     private static void assizeTexts() {
-        promise = "4 assize";
+        label = "4 assize";
         HungryBench x = town("  judge mercy 007nerve 9hunger 99 pay 99 ;case f grave 0 on 0".substring(0, 41));
         due("mercy", x.judge(0, 1), 7);
         due("nerve", x.judge(0, 2), 9);
@@ -299,7 +224,7 @@ public final class PromiseTest {
     }
 
     private static void assizeFaults() {
-        promise = "4 assize, 6 fault";
+        label = "4 assize, 6 fault";
         badAssize("bench", 0);
         badAssize("dayz 1", 0);
         badAssize("aday 1", 0);
@@ -373,7 +298,7 @@ public final class PromiseTest {
     }
 
     private static void lawTexts() {
-        promise = "5 law";
+        label = "5 law";
         HungryBench x = town("judge mercy 10 nerve 3 hunger 20;judge mercy 0 nerve 0;case c grave 5 worth 7;"
                 + "case a grave 50 on 0;case b grave 2 on 1");
         due("lines without a law", x.count(3), -1);
@@ -441,7 +366,7 @@ public final class PromiseTest {
     }
 
     private static void lawFaults() {
-        promise = "5 law, 6 fault";
+        label = "5 law, 6 fault";
         badLaw("tax", 0);
         badLaw("moves 1", 0);
         badLaw("5", 0);
@@ -479,7 +404,7 @@ public final class PromiseTest {
     }
 
     private static void judges() {
-        promise = "7 judge";
+        label = "7 judge";
         HungryBench x = town(BENCH);
         int[][] want = {
             {30, 10, 2, 50, 40, 3, 0, 4095 - 8 - 16, 0},
@@ -528,7 +453,7 @@ public final class PromiseTest {
     }
 
     private static void causes() {
-        promise = "8 cause";
+        label = "8 cause";
         HungryBench x = town(BENCH);
         int[][] want = {
             {0, 45, 8, -1, 0, -1, -1, 0, 3, 7, 1, 5, 0},
@@ -586,7 +511,7 @@ public final class PromiseTest {
     }
 
     private static void places() {
-        promise = "9 listed, 10 smell";
+        label = "9 listed, 10 smell";
         HungryBench x = town(BENCH);
         due("listed", x.listed(0, 3), 0);
         due("listed", x.listed(0, 4), 1);
@@ -602,7 +527,7 @@ public final class PromiseTest {
     }
 
     private static void points() {
-        promise = "11 point, 12 would";
+        label = "11 point, 12 would";
         HungryBench x = under("move 7 if late;harden 20 if hunger > 33;move 2 if judge > 0", BENCH);
         due("point", x.point(0, 0, 3), -5);
         due("point late", x.point(0, 0, 8), 2);
@@ -624,7 +549,7 @@ public final class PromiseTest {
     }
 
     private static void hoursGoOn() {
-        promise = "13 hours";
+        label = "13 hours";
         HungryBench x = town(TWO);
         due("heard", x.hours(1), 1);
         due("freed", x.cause(0, 4), 1);
@@ -669,7 +594,7 @@ public final class PromiseTest {
 
     /** The draws of seed 1 modulo 100 are 38, 58, 13, 15, 51, 27, 10, 19, 12, 86. */
     private static void crumbsCome() {
-        promise = "13 hours, (c)";
+        label = "13 hours, (c)";
         HungryBench x = town(TWO + ";inn 0 38;inn 1 59");
         due("no crumbs at 38", x.hours(1), 1);
         due("hunger", x.judge(0, 0), 1);
@@ -741,7 +666,7 @@ public final class PromiseTest {
     }
 
     private static void acts() {
-        promise = "14 list to 20 grave";
+        label = "14 list to 20 grave";
         HungryBench x = town(BENCH);
         due("list on an empty place", x.list(2, 0, 3), -1);
         due("list in place of another", x.list(2, 0, 0), 3);
@@ -783,7 +708,7 @@ public final class PromiseTest {
     }
 
     private static void actsRefused() {
-        promise = "14 list to 20 grave, refused";
+        label = "14 list to 20 grave, refused";
         HungryBench x = town(BENCH + ";inn 4 0");
         x.inn(3, 0);
         x.hours(1);
@@ -817,7 +742,7 @@ public final class PromiseTest {
     }
 
     private static void earlyAndSplit() {
-        promise = "21 early, 22 split";
+        label = "21 early, 22 split";
         HungryBench x = town(BENCH);
         due("early", x.early(0, 0), 8);
         due("early at once", x.early(1, 0), 3);
@@ -835,7 +760,7 @@ public final class PromiseTest {
     }
 
     private static void savedAndNeeded() {
-        promise = "23 saved, 24 needed";
+        label = "23 saved, 24 needed";
         HungryBench x = town(BENCH);
         due("saved", x.saved(false), 7);
         due("saved worth", x.saved(true), 22);
@@ -872,7 +797,7 @@ public final class PromiseTest {
     }
 
     private static void crumblesAndWorst() {
-        promise = "25 crumbles, 26 worst";
+        label = "25 crumbles, 26 worst";
         HungryBench x = town(BENCH);
         x.inn(3, 0);
         due("crumbles none", x.crumbles(0), 0);
@@ -892,7 +817,7 @@ public final class PromiseTest {
     }
 
     private static void leaning() {
-        promise = "27 deep, 28 roots";
+        label = "27 deep, 28 roots";
         due("roots", town(BENCH).roots(), 1);
         due("deep", town(BENCH).deep(), 3);
         HungryBench x = town("case a grave 1");
@@ -909,7 +834,7 @@ public final class PromiseTest {
     }
 
     private static void mealsAndTries() {
-        promise = "29 meals, 30 tries";
+        label = "29 meals, 30 tries";
         // freed with a hunger of 20 (case 0), 40 (case 1) and 70 (case 2) at least
         HungryBench x = town("judge mercy 10 nerve 0;case a grave 30;case a grave 50;case a grave 80;hour 2");
         tape(x, "");
@@ -991,7 +916,7 @@ public final class PromiseTest {
     }
 
     private static void movedAndEven() {
-        promise = "31 moved, 32 even";
+        label = "31 moved, 32 even";
         HungryBench x = town(BENCH);
         due("moved", x.moved(0, 0), 35);
         due("moved", x.moved(1, 1), 0);
@@ -1031,7 +956,7 @@ public final class PromiseTest {
 
     /** Circuits pay 0, 17, 34, 11, 28. */
     private static void circuits() {
-        promise = "7 judge (8), 33 rather";
+        label = "7 judge (8), 33 rather";
         HungryBench x = town(times("judge mercy 1 nerve 1", 5));
         int[] of = {2, 4, 1, 3, 0};
         for (int j = 0; j < 5; j++) {
@@ -1064,7 +989,7 @@ public final class PromiseTest {
     }
 
     private static void appealsWorth() {
-        promise = "34 worth";
+        label = "34 worth";
         HungryBench x = town("judge mercy 0 nerve 0;judge mercy 1 nerve 0;case a grave 50 worth 6;"
                 + "case a grave 30 worth 6;case a grave 31 worth 6;case a grave 99 worth 50;"
                 + "list 0 0 0;list 0 1 1;list 0 2 2;list 0 3 3");
@@ -1093,7 +1018,7 @@ public final class PromiseTest {
     }
 
     private static void pairsAndAgree() {
-        promise = "35 pairs, 36 agree";
+        label = "35 pairs, 36 agree";
         HungryBench x = town(BENCH);
         due("pairs", x.pairs(-1), 2);
         due("0 and 1", x.pairs(0), 1);
@@ -1147,7 +1072,7 @@ public final class PromiseTest {
     }
 
     private static void restsAndOdds() {
-        promise = "37 rests, 38 odds";
+        label = "37 rests, 38 odds";
         HungryBench x = town("judge mercy 0 nerve 2;judge mercy 0 nerve 0;inn 11 50;inn 0 33;inn 1 34;inn 2 100;"
                 + "hour 11");
         due("rests", x.rests(0), 6);
@@ -1177,7 +1102,7 @@ public final class PromiseTest {
     }
 
     private static void sets() {
-        promise = "39 hungriest to 43 twins";
+        label = "39 hungriest to 43 twins";
         HungryBench x = town(BENCH);
         due("hungriest", x.hungriest(), 2);
         due("hungriest, the first", town("judge mercy 0 nerve 0 hunger 9;judge mercy 0 nerve 0 hunger 8;"
@@ -1209,7 +1134,7 @@ public final class PromiseTest {
     }
 
     private static void aheadTrialSpan() {
-        promise = "44 ahead, 45 trial, 46 span";
+        label = "44 ahead, 45 trial, 46 span";
         HungryBench x = town(TWO + ";inn 0 38;inn 1 59;inn 2 0");
         due("ahead 0", x.ahead(0, 0), 0);
         due("ahead 1", x.ahead(0, 1), 1);
@@ -1260,7 +1185,7 @@ public final class PromiseTest {
     }
 
     private static void logs() {
-        promise = "47 led, 48 log";
+        label = "47 led, 48 log";
         HungryBench x = town("judge mercy 0 nerve 0;case a grave 99;case a grave 99;list 0 0 0;list 0 1 1;day 7");
         due("led none", x.led(0, false), 0);
         due("led no day", x.led(0, true), -1);
@@ -1309,7 +1234,7 @@ public final class PromiseTest {
     }
 
     private static void undone() {
-        promise = "49 seed, 50 undo";
+        label = "49 seed, 50 undo";
         HungryBench x = town(BENCH);
         due("seed", x.seed(-77), 1);
         due("seed", x.seed(Integer.MIN_VALUE), -77);
@@ -1385,7 +1310,7 @@ public final class PromiseTest {
     }
 
     private static void images() {
-        promise = "51 image, 52 back";
+        label = "51 image, 52 back";
         HungryBench x = under("move 5", TWO + ";inn 0 38;inn 1 59");
         x.feeds(0);
         due("no image", x.back(), false);
@@ -1434,7 +1359,7 @@ public final class PromiseTest {
     }
 
     private static void counts() {
-        promise = "53 count";
+        label = "53 count";
         HungryBench x = under("move 1", BENCH);
         int[] want = {3, 4, 1, 1, 3, 2, 15, 7, 95, 0, 0};
         for (int what = 0; what < want.length; what++) {
