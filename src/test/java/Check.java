@@ -1,9 +1,11 @@
+import java.io.IOException;
 import java.lang.reflect.InvocationTargetException;
 import java.lang.reflect.Method;
 import java.nio.file.Files;
 import java.nio.file.Path;
 import java.nio.file.Paths;
 import java.util.ArrayList;
+import java.util.Arrays;
 import java.util.Collections;
 import java.util.Comparator;
 import java.util.List;
@@ -16,6 +18,11 @@ abstract class Check {
     static final Class<?> STATE = IllegalStateException.class;
     static final Class<?> ELEMENT = NoSuchElementException.class;
     static final Class<?> UNSUPPORTED = UnsupportedOperationException.class;
+
+    /** Tests are run where the project stands. */
+    static final Path SOURCE = Paths.get("src/main/java/HungryBench.java");
+    static final Path TESTS = Paths.get("src/test/java");
+    static final Path DOC = Paths.get("../shared/DOC.md");
 
     static final int LEAST = Integer.MIN_VALUE;
     static final int MOST = Integer.MAX_VALUE;
@@ -126,11 +133,13 @@ abstract class Check {
     static void says(String sentence) throws Exception {
         label = label.replaceAll(" \".*", "") + " \"" + sentence + "\"";
         if (doc == null) {
-            Path file = Paths.get(System.getProperty("hungry.doc", "DOC.md"));
-            boolean there = Files.isRegularFile(file);
-            doc = there ? new String(Files.readAllBytes(file), "UTF-8").replaceAll("\\s+", " ") : "";
+            doc = Files.isRegularFile(DOC) ? text(DOC).replaceAll("\\s+", " ") : "";
         }
         due("stands in the document", doc.isEmpty() || doc.contains(sentence), true);
+    }
+
+    static String text(Path file) throws IOException {
+        return new String(Files.readAllBytes(file), "UTF-8");
     }
 
     static String times(String text, int n) {
@@ -259,6 +268,49 @@ abstract class Check {
         }
     }
 
+    /** That a call only asks: all is behind it as if it had not been called. */
+    static void asks(String what, Use call) {
+        HungryBench x = standing();
+        call.on(x);
+        alike("behind " + what, look(x), look(standing()));
+    }
+
+    /** That a call only asks, but for the tape, which it uses up. */
+    static void asksWithTheTape(String what, String told, Use call) {
+        HungryBench x = standing();
+        tape(x, told);
+        call.on(x);
+        HungryBench y = standing();
+        y.end(0);
+        alike("behind " + what, look(x), look(y));
+    }
+
+    /**
+     * That a call changes nothing but what is told: lines of all that can be seen around, as they are behind it, in their
+     * order.
+     */
+    static void changes(String what, Use call, String... lines) {
+        HungryBench x = standing();
+        call.on(x);
+        List<String> got = new ArrayList<>();
+        List<String> was = withTape(standing());
+        for (String line : withTape(x)) {
+            if (!was.contains(line)) {
+                got.add(line);
+            }
+        }
+        alike("behind " + what + ", changed", got, Arrays.asList(lines));
+    }
+
+    /** What is on the tape (as many bytes), what was the fault, and all that stands around. */
+    private static List<String> withTape(HungryBench x) {
+        List<String> seen = new ArrayList<>();
+        seen.add("fault: " + x.fault());
+        seen.add("tape: " + (x.feed(0, 0, 0, 0, 0) - 20));
+        lookAround(x, seen);
+        return seen;
+    }
+
     /** That a call throws as what was told first of several exceptions, and changes nothing. */
     static void toldFirst(String what, Class<?> type, Use call) {
         stays(what, type, call);
@@ -297,7 +349,14 @@ abstract class Check {
         return seen;
     }
 
-    static void lookAround(HungryBench x, List<String> seen) {
+    /** All that can be seen of an object now. */
+    static List<String> around(HungryBench x) {
+        List<String> seen = new ArrayList<>();
+        lookAround(x, seen);
+        return seen;
+    }
+
+    private static void lookAround(HungryBench x, List<String> seen) {
         glance(x, seen, "now");
         int judges = x.count(0);
         int cases = x.count(1);

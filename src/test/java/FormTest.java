@@ -5,7 +5,6 @@ import java.lang.reflect.Member;
 import java.lang.reflect.Method;
 import java.lang.reflect.Modifier;
 import java.nio.file.Files;
-import java.nio.file.Paths;
 import java.util.ArrayList;
 import java.util.Arrays;
 import java.util.List;
@@ -57,6 +56,7 @@ public final class FormTest {
 
     public static void main(String[] args) throws Exception {
         face();
+        document();
         nested();
         source();
         room();
@@ -84,6 +84,29 @@ public final class FormTest {
         Constructor<?>[] made = c.getDeclaredConstructors();
         need(made.length == 1 && made[0].getParameterCount() == 0 && Modifier.isPublic(made[0].getModifiers()),
                 "one constructor");
+    }
+
+    /** The face is that of the document, where it is told whole and where each promise tells its call. */
+    private static void document() throws Exception {
+        if (!Files.isRegularFile(Check.DOC)) {
+            return;
+        }
+        String doc = Check.text(Check.DOC);
+        TreeSet<String> face = new TreeSet<>(Arrays.asList(FACE.split("\\|")));
+        TreeSet<String> told = calls(doc, "    public (\\w+ \\w+)\\(([^)]*)\\)(?: throws ([^;]*))?;");
+        need(told.equals(face), "the face of the document: " + told);
+        TreeSet<String> promised = calls(doc, "`(\\w+ \\w+)\\(([^)]*)\\)(?: throws ([^`]*))?`: ");
+        need(promised.equals(face), "the calls of the promises: " + promised);
+    }
+
+    private static TreeSet<String> calls(String doc, String form) {
+        TreeSet<String> calls = new TreeSet<>();
+        Matcher m = Pattern.compile(form).matcher(doc);
+        while (m.find()) {
+            String thrown = m.group(3) == null ? "" : " " + m.group(3).replace(",", "");
+            calls.add(m.group(1) + "(" + m.group(2).replaceAll(" \\w+(, )?", ",").replaceAll(",$", "") + ")" + thrown);
+        }
+        return calls;
     }
 
     private static boolean hidden(Member m) {
@@ -127,7 +150,7 @@ public final class FormTest {
     }
 
     private static void source() throws Exception {
-        String text = new String(Files.readAllBytes(Paths.get(System.getProperty("hungry.source"))), "UTF-8");
+        String text = Check.text(Check.SOURCE);
         String code = text.replaceAll("(?s)/\\*.*?\\*/", "").replaceAll("//[^\n]*", "");
         for (String bad : new String[] {"->", "::", "\\bcatch\\b", "\\bfinally\\b", "\\bsynchronized\\b",
             "\\bassert\\b", "\\bdouble\\b", "\\bfloat\\b", "Exact\\b", "\\bSystem\\.(?!arraycopy)", "\\bRandom\\b",

@@ -203,12 +203,6 @@ public final class PastBoundsTest extends Check {
 
     // ---- 50 undo
 
-    private static List<String> around(HungryBench x) {
-        List<String> seen = new ArrayList<>();
-        lookAround(x, seen);
-        return seen;
-    }
-
     /** That an act is remembered, and that all is as ahead of it when it is undone. */
     private static void undone(String what, Recipe recipe, Use act) {
         HungryBench x = recipe.make();
